@@ -43,13 +43,10 @@ public final class LocksBySongModelTest {
         if (ready) {
             furnish(x, m, random, log);
         }
-        for (int i = 0; i < 60; i++) {
-            int call = random.nextInt(CALLS);
-            int a = argument(random);
-            int b = argument(random);
-            if (call == 4 && random.nextInt(3) != 0) {
-                call = 11;
-            }
+        for (int i = 0; i < 100; i++) {
+            int call = OFTEN[random.nextInt(OFTEN.length)];
+            int a = argument(random, call < FIRST.length ? FIRST[call] : 9);
+            int b = argument(random, call < SECOND.length ? SECOND[call] : 9);
             writeText(x, m, random, call, log);
             long[] got = answer(x, null, call, a, b, seed);
             long[] want = answer(null, m, call, a, b, seed);
@@ -65,8 +62,22 @@ public final class LocksBySongModelTest {
         }
     }
 
-    private static int argument(Random random) {
-        switch (random.nextInt(12)) {
+    /** The greatest arguments that are of use, by calls; more than that comes seldom. */
+    private static final int[] FIRST = {
+        -1, 80, 0, 0, 0, 0, 3, 8, 2, 1, 3, 0, 8, 0, 60, 0, 0, 0, 0, 0,
+        0, 0, 0, 0, 0, 2, 0, 25, 0, 0, 0, 0, 4, 10, 9, 0, -1, 2, 2};
+    private static final int[] SECOND = {
+        0, 0, 0, 0, 0, 0, 5, 5, 3, 5, 8, 7, 0, 1, 0, 0, 0, 3, 3, 3,
+        3, 3, 4, 4, 4, 0, 0, 1, 0, 0, 0, 0, 10, 100, 0, 3, 60, 0, 0};
+    /** New locks, singers and barges come seldom, since they forget what can be undone. */
+    private static final int[] OFTEN = {
+        0, 1, 2, 3, 4, 5, 5, 5, 6, 7, 8, 9, 9, 10, 11, 11, 11, 11, 12, 12, 13, 13, 13, 13, 13, 13, 13, 13,
+        14, 14, 15, 15, 15, 15, 16, 16, 16, 17, 17, 18, 18, 19, 19, 19, 20, 20, 21, 21, 22, 22, 22, 22,
+        23, 23, 23, 24, 24, 24, 25, 25, 26, 26, 27, 27, 27, 28, 29, 30, 31, 32, 33, 34, 35, 35, 35, 36, 36, 36,
+        37, 37, 38, 38};
+
+    private static int argument(Random random, int most) {
+        switch (random.nextInt(most < 0 ? 4 : 40)) {
             case 0:
                 return -1 - random.nextInt(3);
             case 1:
@@ -76,7 +87,7 @@ public final class LocksBySongModelTest {
             case 3:
                 return 1 << random.nextInt(27);
             default:
-                return random.nextInt(9) * random.nextInt(2);
+                return random.nextInt(most + (random.nextInt(8) == 0 ? 2 : 1));
         }
     }
 
@@ -85,27 +96,32 @@ public final class LocksBySongModelTest {
         write(x, m, lockText(random, locks), log);
         x.locks();
         m.locks();
-        int singers = 4 + random.nextInt(5);
-        write(x, m, singerText(random, singers, random.nextInt(2) * locks), log);
+        int singers = 5 + random.nextInt(4);
+        write(x, m, singerText(random, singers, random.nextInt(4) == 0 ? locks : 0), log);
         x.singers();
         m.singers();
-        write(x, m, bargeText(random, 1 + random.nextInt(4), random.nextInt(2) * locks), log);
+        write(x, m, bargeText(random, 1 + random.nextInt(3), random.nextInt(6) == 0 ? locks : 0), log);
         x.barges();
         m.barges();
-        if (random.nextInt(3) != 0) {
-            // Most calls need crews, which random hires alone would seldom bring together.
-            for (int s = 0; s < singers; s++) {
-                x.hire(s % 5 == 4 ? 1 : 0, s);
-                m.hire(s % 5 == 4 ? 1 : 0, s);
-                log.append(" hire").append(s);
-            }
+        if (random.nextBoolean()) {
+            x.set(0, 2);
+            m.set(0, 2);
+            log.append(" water 2");
+        }
+        int crew = random.nextInt(3) == 0 ? 0 : singers - random.nextInt(3);
+        // Most calls need crews, which random hires alone would seldom bring together.
+        for (int s = 0; s < crew; s++) {
+            int barge = random.nextInt(8) == 0 ? 1 : 0;
+            x.hire(barge, s);
+            m.hire(barge, s);
+            log.append(" hire").append(barge).append(s);
         }
     }
 
     private static String lockText(Random random, int lines) {
         StringBuilder b = new StringBuilder();
         int wide = 1 + random.nextInt(12);
-        int from = random.nextInt(26 - wide);
+        int from = 2 + random.nextInt(8);
         for (int i = 0; i < lines; i++) {
             int[] notes = new int[4];
             for (int k = 0; k < 4; k++) {
@@ -124,10 +140,11 @@ public final class LocksBySongModelTest {
     private static String singerText(Random random, int lines, int places) {
         StringBuilder b = new StringBuilder();
         for (int i = 0; i < lines; i++) {
-            int low = random.nextInt(14);
+            int low = random.nextInt(random.nextInt(4) == 0 ? 16 : 6);
             int high = low + random.nextInt(26 - low);
+            high = random.nextInt(4) != 0 ? Math.max(high, 12 + random.nextInt(14)) : high;
             b.append(i > 0 ? ";" : "").append((char) ('a' + low)).append((char) ('a' + high));
-            b.append(random.nextInt(places + 1)).append(':').append(random.nextInt(random.nextBoolean() ? 5 : 40));
+            b.append(random.nextInt(places + 1)).append(':').append(random.nextInt(random.nextInt(3) == 0 ? 40 : 8));
         }
         return b.toString();
     }
@@ -164,13 +181,13 @@ public final class LocksBySongModelTest {
             b.append(i > 0 ? ";" : "");
             switch (random.nextInt(5)) {
                 case 0:
-                    b.append('h').append(random.nextInt(3)).append(random.nextInt(9));
+                    b.append('h').append(random.nextInt(2)).append(random.nextInt(8));
                     break;
                 case 1:
                     b.append('l').append(random.nextInt(9));
                     break;
                 case 2:
-                    b.append('r').append(random.nextInt(700));
+                    b.append('r').append(random.nextInt(random.nextInt(4) == 0 ? 700 : 40));
                     break;
                 default:
                     b.append(random.nextBoolean() ? 'u' : 'd').append(random.nextInt(2));
