@@ -306,13 +306,14 @@ public final class LocksBySongTest {
         x.rest(121);
         String[] rules = {"n", "t+1", "l", "w+1", "u", "c", "m", "7-2-1", "2+3*4", "(2+3)*4", "7/2", "-7/2+9", "5/0+1", "9/(3-3)",
             "100", "-5", "(3-1<2+1)*9+1", "(3>2)*9+1", "(2=2)*9+1", "(2<2)*9+2", "--7", "2--3", "2*-3+9", "---3+9", "60/2/3",
-            "999*999*999*3/999/999/99+50", "-(1-n)", "9-(-(-(1)))", "99", "2*3<7", "1-1", "8/3*3"};
-        int[] takes = {3, 1, 2, 1, 1, 4, 1, 4, 14, 20, 3, 6, 1, 1, 99, 1, 10, 10, 10, 2, 7, 5, 3, 6, 10, 37, 2, 8, 99, 1, 1, 6};
+            "999*999*999*3/999/999/99+50", "-(1-n)", "9-(-(-(1)))", "99", "2*3<7", "1-1", "8/3*3",
+            "(2>2)*9+2", "(2>3)*9+2", "(2=3)*9+2"};
+        int[] takes = {3, 1, 2, 1, 1, 4, 1, 4, 14, 20, 3, 6, 1, 1, 99, 1, 10, 10, 10, 2, 7, 5, 3, 6, 10, 37, 2, 8, 99, 1, 1, 6, 2, 2, 2};
         for (int i = 0; i < rules.length; i++) {
             dueMinutes(x, rules[i], takes[i]);
         }
         dueRule(x, "55+", -4);
-        due("minutes by the rule as it was", x.journey(0, 1), 6);
+        due("minutes by the rule as it was", x.journey(0, 1), 2);
         dueRule(x, "t*10+w*40+m", 0);
         due("the first", x.pass(0, 1), 1);
         due("tired 4, now 122", x.pass(0, 1), 42);
@@ -750,6 +751,15 @@ public final class LocksBySongTest {
         y.pass(1, 1);
         due("a lock must be emptied", y.journey(0, 3), 14);
         dueRow(y, 3, 1, 12);
+        dueRule(y, "", 0);
+        due("the rule that there is at first, with a lock to be emptied", y.journey(0, 1), 5);
+        LocksBySong z = canal(times(8, "aaaa1"), times(4, "az0:0"), "00");
+        due("the longest way needs a crew", z.journey(0, 8), -2);
+        dueRow(z, 0, 0, 3);
+        due("hires for the longest way", z.hires(0, 8), 15);
+        hired(z, 0, 0, 3);
+        due("the longest way", z.journey(0, 8), 72);
+        dueRow(z, 8, 0, 32);
     }
 
     private static void hires() {
@@ -779,6 +789,14 @@ public final class LocksBySongTest {
         dueRow(z, 0);
         due("nobody becomes tired: the first four do", z.hires(1, 2), 15);
         dueRow(z, 4);
+        LocksBySong v = hired(canal("aaaa1;bbbb1", times(3, "ab0:0") + ";aa0:1;bb0:1;ab0:9", "00"), 0, 0, 2);
+        due("two are cheaper than one", v.hires(0, 2), 24);
+        dueRow(v, 2);
+        v.sheet(2, 6, -2, 1);
+        due("as cheap: the fewest", v.hires(0, 1), 8);
+        due("fee", v.singer(4, 2), 2);
+        due("one as cheap as two", v.hires(0, 2), 32);
+        dueRow(v, 3);
     }
 
     private static void rested() {
@@ -1034,11 +1052,25 @@ public final class LocksBySongTest {
         due("three", x.days(1, 3), 2);
         dueRow(x, 10, 19);
         due("nothing changes", x.count(3) + x.count(6) + x.count(8), 0);
+        due("a rest", x.days(restingSeed(), 1), 0);
+        dueRow(x, 10, 20);
         due("none", x.days(1, 0), -1);
         due("61", x.days(1, 61), -1);
         due("60", x.days(-7, 60) > 0, true);
         LocksBySong y = canal("aaaa1", times(4, "az0:0"), "");
         due("no barges", y.days(1, 1), -1);
+    }
+
+    /** A seed whose first act is that 10 minutes go by, drawn as the document says. */
+    private static int restingSeed() {
+        for (int seed = 0; seed < 100; seed++) {
+            int r = seed * 1103515245 + 12345;
+            r = r * 1103515245 + 12345;
+            if ((r & 0xffffffffL) / 65536 % 3 == 2) {
+                return seed;
+            }
+        }
+        throw new AssertionError();
     }
 
     // ---- promises 39 to 42
