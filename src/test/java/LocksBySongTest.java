@@ -1,13 +1,7 @@
-import java.util.ArrayList;
 import java.util.Arrays;
-import java.util.List;
-import java.util.NoSuchElementException;
 
 /** For each promise of the document what it says: ordinary calls, its edges, and wrong inputs. */
-public final class LocksBySongTest {
-    private static int wrong = 0;
-    private static int promise = 0;
-
+public final class LocksBySongTest extends Checks {
     public static void main(String[] args) {
         aNewObject();
         sign();
@@ -47,100 +41,13 @@ public final class LocksBySongTest {
         count();
         row();
         refusedCallsTellNoRow();
-        System.out.println(wrong == 0 ? "all promises hold" : wrong + " answers are not as due");
-        if (wrong != 0) {
-            System.exit(1);
-        }
-    }
-
-    // ---- helpers
-
-    private static void due(String call, long got, long want) {
-        if (got != want) {
-            wrong++;
-            System.out.println("promise " + promise + ": " + call + " answered " + got + ", due is " + want);
-        }
-    }
-
-    private static void due(String call, boolean got, boolean want) {
-        due(call, got ? 1 : 0, want ? 1 : 0);
-    }
-
-    private static void dueRow(LocksBySong x, long... want) {
-        List<Long> got = new ArrayList<>();
-        for (int i = 0; i < x.count(11); i++) {
-            got.add(x.row(i));
-        }
-        List<Long> list = new ArrayList<>();
-        Arrays.stream(want).forEach(list::add);
-        if (!got.equals(list)) {
-            wrong++;
-            System.out.println("promise " + promise + ": the row is " + got + ", due is " + list);
-        }
-    }
-
-    private interface Call {
-        long answer();
-    }
-
-    private static void dueNone(String call, Call asked) {
-        try {
-            long got = asked.answer();
-            wrong++;
-            System.out.println("promise " + promise + ": " + call + " answered " + got + ", due is NoSuchElementException");
-        } catch (NoSuchElementException e) {
-            return;
-        }
-    }
-
-    private static LocksBySong write(LocksBySong x, String text) {
-        x.end(0);
-        for (int i = 0; i < text.length(); i += 4) {
-            int v = 0;
-            for (int k = 0; k < 4; k++) {
-                v = v << 8 | (i + k < text.length() ? text.charAt(i + k) : 0);
-            }
-            x.sign(v);
-        }
-        due("end of the text " + text, x.end(text.length()), true);
-        return x;
-    }
-
-    private static LocksBySong canal(String locks, String singers, String barges) {
-        LocksBySong x = new LocksBySong();
-        due("locks " + locks, write(x, locks).locks() >= 0, true);
-        due("singers " + singers, write(x, singers).singers() >= 0, true);
-        due("barges " + barges, write(x, barges).barges() >= 0, true);
-        return x;
-    }
-
-    /** Two locks, four singers, none hired, and a barge at place 0. */
-    private static LocksBySong usual() {
-        return canal("acef3;bdgi2", "ad0:5;cf0:7;eh0:9;fz0:20", "02");
-    }
-
-    private static LocksBySong hired(LocksBySong x, int barge, int first, int last) {
-        for (int s = first; s <= last; s++) {
-            due("hire", x.hire(barge, s) >= 0, true);
-        }
-        return x;
-    }
-
-    private static String times(int many, String line) {
-        return String.join(";", java.util.Collections.nCopies(many, line));
-    }
-
-    /** Two barges at place 0 with four singers each that sing all notes for nothing. */
-    private static LocksBySong twoBarges(String locks) {
-        LocksBySong x = canal(locks, times(8, "az0:0"), "00;00");
-        hired(x, 0, 0, 3);
-        return hired(x, 1, 4, 7);
+        report("all promises hold");
     }
 
     // ---- promises 1 to 12
 
     private static void aNewObject() {
-        promise = 1;
+        about = "promise 1";
         LocksBySong x = new LocksBySong();
         int[] want = {0, 0, 0, 0, 20, 0, 0, 0, 0, 0, 0, 0, 0};
         for (int what = 0; what < want.length; what++) {
@@ -150,7 +57,7 @@ public final class LocksBySongTest {
     }
 
     private static void sign() {
-        promise = 2;
+        about = "promise 2";
         LocksBySong x = new LocksBySong();
         for (int i = 1; i <= 20; i++) {
             due("sign", x.sign(0x61616161), 4 * i);
@@ -175,7 +82,7 @@ public final class LocksBySongTest {
     }
 
     private static void end() {
-        promise = 3;
+        about = "promise 3";
         LocksBySong x = new LocksBySong();
         due("end(0) of none", x.end(0), true);
         due("end(1) of none", x.end(1), false);
@@ -190,15 +97,8 @@ public final class LocksBySongTest {
         due("end(int least)", x.end(Integer.MIN_VALUE), false);
     }
 
-    private static void dueLocks(LocksBySong x, String text, int want) {
-        int had = x.count(0);
-        due("locks " + text, write(x, text).locks(), want);
-        due("locks there", x.count(0), had + Math.max(0, want));
-        due("the text behind it", x.count(12), 0);
-    }
-
     private static void locks() {
-        promise = 4;
+        about = "promise 4";
         String[] texts = {"A", "a", "ab", "ba", "abc", "abcd", "abcd0", "abcda", "abcd5;", "abcd5,", "abcd55", ";", "abca5",
             "aaaa1;bbbb0", "aaaa1;", "aaaa1;;", "{aaa1", "`aaa1", "", "aaa{"};
         int[] wants = {-1, -2, -3, -2, -4, -5, -5, -5, -7, -6, -6, -1, -4, -11, -7, -7, -1, -1, 0, -4};
@@ -221,15 +121,8 @@ public final class LocksBySongTest {
         dueLocks(y, times(8, "aaaa1"), 8);
     }
 
-    private static void dueSingers(LocksBySong x, String text, int want) {
-        int had = x.count(1);
-        due("singers " + text, write(x, text).singers(), want);
-        due("singers there", x.count(1), had + Math.max(0, want));
-        due("the text behind it", x.count(12), 0);
-    }
-
     private static void singers() {
-        promise = 5;
+        about = "promise 5";
         LocksBySong x = new LocksBySong();
         dueSingers(x, "ab1:1", -3);
         dueLocks(x, "acef3;bdgi2", 2);
@@ -253,15 +146,8 @@ public final class LocksBySongTest {
         dueSingers(y, "ab0:1", -1);
     }
 
-    private static void dueBarges(LocksBySong x, String text, int want) {
-        int had = x.count(2);
-        due("barges " + text, write(x, text).barges(), want);
-        due("barges there", x.count(2), had + Math.max(0, want));
-        due("the text behind it", x.count(12), 0);
-    }
-
     private static void barges() {
-        promise = 6;
+        about = "promise 6";
         LocksBySong x = new LocksBySong();
         dueBarges(x, "10", -1);
         dueLocks(x, "acef3;bdgi2", 2);
@@ -279,19 +165,8 @@ public final class LocksBySongTest {
         dueBarges(x, "00", -1);
     }
 
-    private static void dueRule(LocksBySong x, String text, int want) {
-        due("rule " + text, write(x, text).rule(), want);
-        due("the text behind it", x.count(12), 0);
-    }
-
-    /** What journey() of one lock takes by a rule. */
-    private static void dueMinutes(LocksBySong x, String text, int want) {
-        dueRule(x, text, 0);
-        due("minutes by " + text, x.journey(0, 1), want);
-    }
-
     private static void rule() {
-        promise = 7;
+        about = "promise 7";
         LocksBySong x = hired(usual(), 0, 0, 3);
         String many = "1+1+1+1+1+1+1+1+1+1+1+1+1+1+1+1+1+1+1+1";
         String[] texts = {"", "n+", "+n", "1234", "(n", "n)", "((((n))))", "(((((n)))))", "1<2<3", "1<(2<3)", "(1<2)=1",
@@ -324,7 +199,7 @@ public final class LocksBySongTest {
 
     private static void lockSingerBarge() {
         LocksBySong x = usual();
-        promise = 8;
+        about = "promise 8";
         int[] lock = {1, 3, 6, 8, 2, 0};
         for (int what = 0; what < 6; what++) {
             due("lock(1, " + what + ")", x.lock(1, what), lock[what]);
@@ -333,7 +208,7 @@ public final class LocksBySongTest {
         dueNone("lock(-1, 0)", () -> x.lock(-1, 0));
         dueNone("lock(0, 6)", () -> x.lock(0, 6));
         dueNone("lock(0, -1)", () -> x.lock(0, -1));
-        promise = 9;
+        about = "promise 9";
         int[] singer = {5, 25, 20, 0, 0, -1};
         for (int what = 0; what < 6; what++) {
             due("singer(3, " + what + ")", x.singer(3, what), singer[what]);
@@ -342,7 +217,7 @@ public final class LocksBySongTest {
         dueNone("singer(-1, 0)", () -> x.singer(-1, 0));
         dueNone("singer(0, 6)", () -> x.singer(0, 6));
         dueNone("singer(0, -1)", () -> x.singer(0, -1));
-        promise = 10;
+        about = "promise 10";
         int[] barge = {0, 2, 100, 0};
         for (int what = 0; what < 4; what++) {
             due("barge(0, " + what + ")", x.barge(0, what), barge[what]);
@@ -362,7 +237,7 @@ public final class LocksBySongTest {
     }
 
     private static void set() {
-        promise = 11;
+        about = "promise 11";
         LocksBySong x = new LocksBySong();
         due("set(0, 999)", x.set(0, 999), 20);
         due("set(0, 1000)", x.set(0, 1000), -1);
@@ -377,14 +252,8 @@ public final class LocksBySongTest {
         due("set(-1, 0)", x.set(-1, 0), -1);
     }
 
-    private static void dueFees(LocksBySong x, int... want) {
-        for (int s = 0; s < want.length; s++) {
-            due("fee of " + s, x.singer(s, 2), want[s]);
-        }
-    }
-
     private static void sheet() {
-        promise = 12;
+        about = "promise 12";
         LocksBySong x = usual();
         due("bytes", x.sheet(0, 4, 120, 5), 198);
         dueFees(x, 99, 99, 0, 0);
@@ -414,7 +283,7 @@ public final class LocksBySongTest {
     // ---- promises 13 to 18
 
     private static void hire() {
-        promise = 13;
+        about = "promise 13";
         LocksBySong x = canal("aaaa1", "aa0:5;aa1:5;aa0:99;aa0:95", "00;10");
         due("no such barge", x.hire(2, 0), -1);
         due("no such barge", x.hire(-1, 0), -1);
@@ -433,7 +302,7 @@ public final class LocksBySongTest {
     }
 
     private static void leave() {
-        promise = 14;
+        about = "promise 14";
         LocksBySong x = hired(usual(), 0, 0, 3);
         due("none such", x.leave(4), -1);
         due("none such", x.leave(-1), -1);
@@ -448,7 +317,7 @@ public final class LocksBySongTest {
     }
 
     private static void pass() {
-        promise = 15;
+        about = "promise 15";
         LocksBySong x = twoBarges("aaaa1");
         dueRule(x, "w*10+u*5+1", 0);
         due("no such barge", x.pass(2, 1), -1);
@@ -489,7 +358,7 @@ public final class LocksBySongTest {
     }
 
     private static void rest() {
-        promise = 16;
+        about = "promise 16";
         LocksBySong x = hired(canal("aaaa9", "az0:0;az0:0;az0:0;az0:0;az0:0", "00"), 0, 0, 3);
         due("600", x.rest(600), 600);
         due("601", x.rest(601), -1);
@@ -512,13 +381,8 @@ public final class LocksBySongTest {
         due("tired, 0 at least", x.count(8), 0);
     }
 
-    private static void dueDay(LocksBySong x, String text, int want) {
-        due("day " + text, write(x, text).day(), want);
-        due("the text behind it", x.count(12), 0);
-    }
-
     private static void day() {
-        promise = 17;
+        about = "promise 17";
         LocksBySong x = usual();
         dueDay(x, "", 0);
         dueRow(x, 0, 0);
@@ -555,7 +419,7 @@ public final class LocksBySongTest {
     }
 
     private static void undo() {
-        promise = 18;
+        about = "promise 18";
         LocksBySong x = usual();
         due("none", x.undo(), -1);
         for (int i = 1; i <= 16; i++) {
@@ -611,7 +475,7 @@ public final class LocksBySongTest {
     // ---- promises 19 to 28
 
     private static void sings() {
-        promise = 19;
+        about = "promise 19";
         LocksBySong x = usual();
         due("nobody", x.sings(0, 0), 0);
         dueRow(x);
@@ -636,7 +500,7 @@ public final class LocksBySongTest {
     }
 
     private static void lacks() {
-        promise = 20;
+        about = "promise 20";
         LocksBySong x = usual();
         due("nobody", x.lacks(0, 0), 0);
         dueRow(x, 0);
@@ -657,7 +521,7 @@ public final class LocksBySongTest {
     }
 
     private static void spoils() {
-        promise = 21;
+        about = "promise 21";
         LocksBySong x = hired(canal("aaaz1", "aa0:0;az0:0;az0:0;az0:0;aa0:0;aa0:0", "00"), 0, 0, 5);
         due("three", x.spoils(0, 0), 3);
         dueRow(x, 7);
@@ -678,7 +542,7 @@ public final class LocksBySongTest {
     }
 
     private static void shift() {
-        promise = 22;
+        about = "promise 22";
         LocksBySong x = hired(canal("ffff1;aaaz1;cccc1", times(4, "dd0:0") + ";" + times(4, "hh0:0"), "00"), 0, 0, 7);
         due("two down, two up: the lower", x.shift(0, 0), 98);
         dueRow(x, 0, 1, 2, 3);
@@ -701,7 +565,7 @@ public final class LocksBySongTest {
     }
 
     private static void voices() {
-        promise = 23;
+        about = "promise 23";
         LocksBySong x = canal("aaaa1", "aa0:1;aa0:1;aa0:1;aa0:1;aa0:0;aa1:0;aa0:2", "00;10");
         due("the cheapest, then the least bits", x.voices(0, 0), 23);
         dueRow(x, 3);
@@ -724,7 +588,7 @@ public final class LocksBySongTest {
     }
 
     private static void journey() {
-        promise = 24;
+        about = "promise 24";
         LocksBySong x = hired(usual(), 0, 0, 3);
         due("to where it is", x.journey(0, 0), 0);
         dueRow(x, 0, 0, 0);
@@ -763,7 +627,7 @@ public final class LocksBySongTest {
     }
 
     private static void hires() {
-        promise = 25;
+        about = "promise 25";
         LocksBySong x = canal("aaaa1;zzzz1", times(4, "ac0:1") + ";" + times(4, "zz1:2"), "00;20");
         due("up", x.hires(0, 2), 255);
         dueRow(x, 12);
@@ -800,7 +664,7 @@ public final class LocksBySongTest {
     }
 
     private static void rested() {
-        promise = 26;
+        about = "promise 26";
         LocksBySong x = hired(usual(), 0, 0, 3);
         due("no rest", x.rested(0, 2), 0);
         dueRow(x, 16);
@@ -829,13 +693,8 @@ public final class LocksBySongTest {
         due("not by 90: the first lock tires", z.rested(0, 2), -2);
     }
 
-    private static void dueQueue(LocksBySong x, String text, int want) {
-        due("queue " + text, write(x, text).queue(0), want);
-        due("the text behind it", x.count(12), 0);
-    }
-
     private static void queue() {
-        promise = 27;
+        about = "promise 27";
         LocksBySong x = twoBarges("aaaa1");
         dueQueue(x, "u", 0);
         dueRow(x, 0, 0);
@@ -869,7 +728,7 @@ public final class LocksBySongTest {
     }
 
     private static void jams() {
-        promise = 28;
+        about = "promise 28";
         LocksBySong x = new LocksBySong();
         due("no barges", x.jams(), 0);
         dueRow(x, 0, 1);
@@ -890,14 +749,14 @@ public final class LocksBySongTest {
     // ---- promises 29 to 33
 
     private static void heardForgetWho() {
-        promise = 29;
+        about = "promise 29";
         LocksBySong x = usual();
         due("note 26", x.heard(26, 1), -1);
         due("note -1", x.heard(-1, 1), -1);
         due("is 2", x.heard(0, 2), -1);
         due("is -1", x.heard(0, -1), -1);
         due("heard", x.heard(2, 1), 1);
-        promise = 31;
+        about = "promise 31";
         due("who", x.who(), 3);
         dueRow(x, 2);
         due("not heard", x.heard(4, 0), 2);
@@ -906,17 +765,17 @@ public final class LocksBySongTest {
         due("heard", x.heard(25, 1), 3);
         due("nobody", x.who(), 0);
         dueRow(x, 0);
-        promise = 29;
+        about = "promise 29";
         for (int i = 4; i <= 12; i++) {
             due("heard", x.heard(2, 1), i);
         }
         due("a thirteenth", x.heard(2, 1), -1);
         due("how many", x.count(9), 12);
-        promise = 30;
+        about = "promise 30";
         due("forget", x.forget(), 12);
         due("forget", x.forget(), 0);
         due("how many", x.count(9), 0);
-        promise = 31;
+        about = "promise 31";
         due("all", x.who(), 15);
         dueRow(x, 4);
         hired(x, 0, 0, 3);
@@ -929,7 +788,7 @@ public final class LocksBySongTest {
     }
 
     private static void listen() {
-        promise = 32;
+        about = "promise 32";
         LocksBySong x = new LocksBySong();
         due("none", x.listen(), -2);
         LocksBySong y = usual();
@@ -946,7 +805,7 @@ public final class LocksBySongTest {
     }
 
     private static void parts() {
-        promise = 33;
+        about = "promise 33";
         LocksBySong x = usual();
         due("four by two", x.parts(), 2);
         dueRow(x, 20);
@@ -973,7 +832,7 @@ public final class LocksBySongTest {
     // ---- promises 34 to 38
 
     private static void opens() {
-        promise = 34;
+        about = "promise 34";
         LocksBySong x = new LocksBySong();
         int[][] bad = {{0, 1}, {5, 1}, {1, -1}, {1, 11}, {-1, 0}};
         for (int[] b : bad) {
@@ -994,7 +853,7 @@ public final class LocksBySongTest {
     }
 
     private static void tries() {
-        promise = 35;
+        about = "promise 35";
         LocksBySong x = new LocksBySong();
         int[][] asked = {{5, 6}, {5, 7}, {5, 20}, {5, 50}, {0, 100}, {10, 0}, {10, 1}, {11, 5}, {-1, 5}, {5, 101}, {5, -1}, {5, 13}};
         int[] wants = {1, 2, 4, -2, 1, 1, -2, -1, -1, -1, -1, 3};
@@ -1004,7 +863,7 @@ public final class LocksBySongTest {
     }
 
     private static void rests() {
-        promise = 36;
+        about = "promise 36";
         LocksBySong x = new LocksBySong();
         due("rests(0)", x.rests(0), 7);
         dueRow(x, 0, 0);
@@ -1016,7 +875,7 @@ public final class LocksBySongTest {
     }
 
     private static void pays() {
-        promise = 37;
+        about = "promise 37";
         LocksBySong x = canal("aaaa1", "aa0:1;aa0:2;aa0:3;aa0:4;aa0:9;aa1:0", "00;10");
         due("each by how much", x.pays(0, 0), 8);
         dueRow(x, 8, 7, 6, 5, 0, 0);
@@ -1041,7 +900,7 @@ public final class LocksBySongTest {
     }
 
     private static void days() {
-        promise = 38;
+        about = "promise 38";
         LocksBySong x = hired(canal("aaaa1", times(4, "az0:0"), "00"), 0, 0, 3);
         dueRule(x, "5", 0);
         // By the seed 1 the first three acts are up, up (it can't), down.
@@ -1076,7 +935,7 @@ public final class LocksBySongTest {
     // ---- promises 39 to 42
 
     private static void keepAgain() {
-        promise = 39;
+        about = "promise 39";
         LocksBySong x = hired(usual(), 0, 0, 2);
         due("keep(3)", x.keep(3), false);
         due("keep(-1)", x.keep(-1), false);
@@ -1087,7 +946,7 @@ public final class LocksBySongTest {
         x.set(1, 7);
         x.sheet(2, 1, 9, 0);
         due("keep(2)", x.keep(2), true);
-        promise = 40;
+        about = "promise 40";
         due("again(1)", x.again(1), false);
         due("again(3)", x.again(3), false);
         due("again(-1)", x.again(-1), false);
@@ -1121,7 +980,7 @@ public final class LocksBySongTest {
     }
 
     private static void count() {
-        promise = 41;
+        about = "promise 41";
         LocksBySong x = hired(usual(), 0, 0, 3);
         write(x, "01").barges();
         x.pass(0, 1);
@@ -1138,7 +997,7 @@ public final class LocksBySongTest {
     }
 
     private static void row() {
-        promise = 42;
+        about = "promise 42";
         LocksBySong x = new LocksBySong();
         dueNone("row(0)", () -> x.row(0));
         x.opens(2, 5);
@@ -1155,7 +1014,7 @@ public final class LocksBySongTest {
 
     /** The ROW is what was told last: answers that the document gives no row leave it. */
     private static void refusedCallsTellNoRow() {
-        promise = 2;
+        about = "promise 2";
         LocksBySong x = usual();
         x.opens(2, 5);
         x.voices(0, 9);
