@@ -460,6 +460,15 @@ public final class LocksBySongEdgesTest extends Checks {
         due("crew", x.barge(3, 3), 128);
     }
 
+    static void p17_theFirstDigitIsTheBarge() {
+        LocksBySong x = full();
+        dueDay(x, "h10;h21;h32;h03;h37;l1;h11", 7);
+        int[] crews = {8, 3, 0, 4 + 128};
+        for (int b = 0; b < 4; b++) {
+            due("crew of " + b, x.barge(b, 3), crews[b]);
+        }
+    }
+
     static void p17_asMuchAsFits() {
         LocksBySong x = full();
         dueDay(x, "h00;h01;h02;h03;u0;u0;u0;u0;u0;u0;u0;u0;d0;d0;d0;d0;r600", 17);
@@ -569,6 +578,27 @@ public final class LocksBySongEdgesTest extends Checks {
         due("undo", x.undo(), 6);
         due("tired", x.count(8), 4);
         due("now", x.count(3), 2);
+    }
+
+    static void p18_whereSingersAreIsAsAheadOfIt() {
+        LocksBySong x = canal("aaaa1", times(4, "az0:0"), "00");
+        x.keep(0);
+        hired(x, 0, 0, 3);
+        x.pass(0, 1);
+        x.leave(2);
+        due("it left", x.singer(2, 4), 1);
+        for (int left = 5; left >= 0; left--) {
+            due("undo", x.undo(), left);
+        }
+        due("free", x.count(7), 15);
+        due("where it was", x.singer(2, 4), 0);
+        due("it can be hired there", x.hire(0, 2), 100);
+        due("undo", x.undo(), 0);
+        hired(x, 0, 0, 3);
+        x.pass(0, 1);
+        x.leave(1);
+        due("again", x.again(0), true);
+        due("where it was", x.singer(1, 4), 0);
     }
 
     static void p18_othersStay() {
@@ -917,6 +947,18 @@ public final class LocksBySongEdgesTest extends Checks {
         dueRow(x, 4);
     }
 
+    static void p25_theLocksOfTheWayDown() {
+        LocksBySong x = canal("aaaa1;bbbb1;cccc1;dddd1", times(4, "cc3:1") + ";" + times(4, "bb2:2"), "30;20");
+        due("through lock 2", x.hires(0, 2), 15);
+        dueRow(x, 4);
+        due("through locks 2 and 1", x.hires(0, 1), 255);
+        dueRow(x, 12);
+        due("through lock 1", x.hires(1, 1), 240);
+        dueRow(x, 8);
+        due("through lock 0, too", x.hires(0, 0), -2);
+        due("up through lock 3", x.hires(0, 4), -2);
+    }
+
     static void p25_byNone() {
         due("without singers", canal("aaaa1", "", "00").hires(0, 1), -2);
         LocksBySong x = canal("aaaa1;bbbb1", times(8, "az0:0"), "00;00");
@@ -1037,6 +1079,78 @@ public final class LocksBySongEdgesTest extends Checks {
         dueQueue(x, repeat(14, "d"), 14);
         dueRow(x, 14, 0, 1, 2, 3, 4, 5, 6, 7, 8, 9, 10, 11, 12, 13);
         due("water and level stay", x.count(4) * 10 + x.count(6), 200);
+    }
+
+    /** Tries all orders, the least rows first, and keeps the first of the best; costs are water by 100 and fillings. */
+    private static final class Orders {
+        final String text;
+        final long[] order;
+        long[] best;
+        int least = GREATEST;
+
+        Orders(String text, int level) {
+            this.text = text;
+            order = new long[text.length()];
+            go(0, 0, level, 0);
+        }
+
+        void go(int k, int gone, int level, int cost) {
+            if (k == order.length && cost < least) {
+                least = cost;
+                best = order.clone();
+            }
+            for (int i = 0; i < order.length && cost < least; i++) {
+                boolean first = (gone & 1 << i) == 0;
+                for (int j = 0; j < i; j++) {
+                    first &= text.charAt(j) != text.charAt(i) || (gone & 1 << j) != 0;
+                }
+                if (first) {
+                    order[k] = i;
+                    boolean up = text.charAt(i) == 'u';
+                    int more = up ? 101 * level : 100 + 1 - level;
+                    go(k + 1, gone | 1 << i, up ? 1 : 0, cost + more);
+                }
+            }
+        }
+    }
+
+    private static void dueBestOrder(String text, int level) {
+        LocksBySong x = twoBarges("aaaa1");
+        if (level == 1) {
+            x.pass(0, 1);
+        }
+        Orders all = new Orders(text, level);
+        due("queue of " + text + " from " + level, write(x, text).queue(0), all.least / 100);
+        long[] row = new long[text.length() + 1];
+        row[0] = all.least % 100;
+        System.arraycopy(all.best, 0, row, 1, text.length());
+        dueRow(x, row);
+    }
+
+    static void p27_fourteenOfBothKinds() {
+        for (int level = 0; level < 2; level++) {
+            for (int ups = 0; ups <= 14; ups++) {
+                dueBestOrder(repeat(ups, "u") + repeat(14 - ups, "d"), level);
+                dueBestOrder(repeat(14 - ups, "d") + repeat(ups, "u"), level);
+            }
+            dueBestOrder(repeat(7, "ud"), level);
+            dueBestOrder(repeat(7, "du"), level);
+            dueBestOrder("uudduuuddudddu", level);
+        }
+    }
+
+    static void p27_allQueuesOfUpToSix() {
+        for (int level = 0; level < 2; level++) {
+            for (int many = 1; many <= 6; many++) {
+                for (int bits = 0; bits < 1 << many; bits++) {
+                    StringBuilder text = new StringBuilder();
+                    for (int i = 0; i < many; i++) {
+                        text.append((bits >> i & 1) == 1 ? 'u' : 'd');
+                    }
+                    dueBestOrder(text.toString(), level);
+                }
+            }
+        }
     }
 
     static void p27_itAsksForNoWater() {

@@ -8,6 +8,7 @@ import java.util.function.Supplier;
  */
 public final class LocksBySongRefusedTest extends Checks {
     private static final int[] FAR = {LEAST, -2, -1, GREATEST};
+    private static final String TEXT = "r1;r2";
 
     public static void main(String[] args) {
         runAll(LocksBySongRefusedTest.class);
@@ -126,21 +127,36 @@ public final class LocksBySongRefusedTest extends Checks {
         return all;
     }
 
-    private static void dueNothingChanged(String state, Supplier<LocksBySong> maker, Refusal r) {
+    private interface Look {
+        List<Long> at(LocksBySong x);
+    }
+
+    /** Two objects of a kind: one is asked what it refuses, and both are looked at. */
+    private static void dueAlike(String what, Supplier<LocksBySong> maker, Refusal r, Look look) {
         LocksBySong asked = maker.get();
         LocksBySong other = maker.get();
-        String text = r.text == null ? "u0;r1" : r.text;
-        write(asked, text);
+        write(asked, r.text == null ? TEXT : r.text);
+        write(other, r.text == null ? TEXT : "");
+        due(what, r.asked.answer(asked), r.want);
+        due(what + " leaves all as it is", look.at(asked).equals(look.at(other)), true);
+    }
+
+    /** Each look has objects of its own, since an object is used for 512 calls at most. */
+    private static void dueNothingChanged(String state, Supplier<LocksBySong> maker, Refusal r) {
+        String what = state + ": " + r.name;
+        dueAlike(what, maker, r, LocksBySongRefusedTest::seen);
+        dueAlike(what, maker, r, LocksBySongRefusedTest::seenByCalls);
         if (r.text == null) {
-            write(other, text);
+            dueAlike(what, maker, r, LocksBySongRefusedTest::seenByTheText);
         }
-        due(state + ": " + r.name, r.asked.answer(asked), r.want);
-        String what = state + ": all is alike behind " + r.name + " with the text " + text;
-        due(what, seen(asked).equals(seen(other)), true);
-        if (r.text == null) {
-            due(what + ", the text too", asked.day() == other.day() && seen(asked).equals(seen(other)), true);
-        }
-        due(what + ", by calls", seenByCalls(asked).equals(seenByCalls(other)), true);
+    }
+
+    private static List<Long> seenByTheText(LocksBySong x) {
+        List<Long> all = new ArrayList<>();
+        all.add((long) x.day());
+        all.addAll(row(x));
+        all.add((long) x.count(3));
+        return all;
     }
 
     private static void dueAll(String state, Supplier<LocksBySong> maker, List<Refusal> refusals) {
@@ -241,7 +257,7 @@ public final class LocksBySongRefusedTest extends Checks {
     }
 
     private static void addOneAbove(List<Refusal> list) {
-        add(list, "end(6)", 0, x -> x.end(6) ? 1 : 0);
+        add(list, "end(6)", 0, x -> x.end(TEXT.length() + 1) ? 1 : 0);
         add(list, "set(0, 1000)", -1, x -> x.set(0, 1000));
         add(list, "set(1, 1 << 26)", -1, x -> x.set(1, 1 << 26));
         add(list, "set(2, 0)", -1, x -> x.set(2, 0));

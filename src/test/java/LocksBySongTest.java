@@ -167,7 +167,6 @@ public final class LocksBySongTest extends Checks {
 
     private static void rule() {
         about = "promise 7";
-        LocksBySong x = hired(usual(), 0, 0, 3);
         String many = "1+1+1+1+1+1+1+1+1+1+1+1+1+1+1+1+1+1+1+1";
         String[] texts = {"", "n+", "+n", "1234", "(n", "n)", "((((n))))", "(((((n)))))", "1<2<3", "1<(2<3)", "(1<2)=1",
             "x", "n n", "--n", "n--n", "n**n", "()", "nn", "1n", "n1", "-", "(1=2=3)", "<1", "1<", "(1)(1)",
@@ -175,8 +174,9 @@ public final class LocksBySongTest extends Checks {
         int[] wants = {0, -3, -1, -4, -3, -2, 0, -5, -4, 0, 0, -1, -2, 0, 0, -3, -2, -2, -2, -2, -2, -5, -1, -3, -4,
             0, -41, -41, -41, -2, -41, -41, -41};
         for (int i = 0; i < texts.length; i++) {
-            dueRule(x, texts[i], wants[i]);
+            dueRule(new LocksBySong(), texts[i], wants[i]);
         }
+        LocksBySong x = hired(usual(), 0, 0, 3);
         dueMinutes(x, "", 8);
         x.rest(121);
         String[] rules = {"n", "t+1", "l", "w+1", "u", "c", "m", "7-2-1", "2+3*4", "(2+3)*4", "7/2", "-7/2+9", "5/0+1", "9/(3-3)",
