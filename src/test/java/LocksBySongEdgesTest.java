@@ -947,6 +947,17 @@ public final class LocksBySongEdgesTest extends Checks {
         dueRow(x, 4);
     }
 
+    static void p25_theLongestWay() {
+        LocksBySong x = canal(times(7, "aaaa1") + ";zzzz1", times(4, "aa0:1") + ";" + times(4, "zz7:2"), "00");
+        due("up to the last place", x.hires(0, 8), 255);
+        dueRow(x, 12);
+        due("one less", x.hires(0, 7), 15);
+        LocksBySong y = canal("aaaa1;" + times(7, "zzzz1"), times(4, "aa1:1") + ";" + times(4, "zz8:2"), "80");
+        due("down to the first place", y.hires(0, 0), 255);
+        dueRow(y, 12);
+        due("one less", y.hires(0, 1), 240);
+    }
+
     static void p25_theLocksOfTheWayDown() {
         LocksBySong x = canal("aaaa1;bbbb1;cccc1;dddd1", times(4, "cc3:1") + ";" + times(4, "bb2:2"), "30;20");
         due("through lock 2", x.hires(0, 2), 15);
