@@ -1,339 +1,209 @@
-import java.math.BigInteger;
 import java.util.ArrayList;
 import java.util.Arrays;
-import java.util.Collections;
 import java.util.List;
-import java.util.NoSuchElementException;
-import java.util.Random;
 
-/** Random runs of calls, each answer compared with that of a model that tries everything out. */
+/**
+ * Random runs of calls, each answer compared with that of a model that tries everything out: short ones
+ * in which all of the state is looked at behind each call, and long ones of 512 calls in which later
+ * calls alone show what earlier ones left.
+ */
 public final class LocksBySongModelTest {
-    private static final int RUNS = 4000;
-    private static final long[] ANSWERS = new long[64];
-    private static final long[] GOOD = new long[64];
-    private static int wrong = 0;
+    private static final int SHORT_RUNS = 4000;
+    private static final int LONG_RUNS = 1500;
+    /** Its name, how often it comes, and the greatest arguments of use (-1: any); more comes seldom. */
+    private static final String[] CALLS = {
+        "sign 1 -1", "end 1 80", "locks 1", "singers 1", "barges 1", "rule 3", "lock 1 3 5", "singer 1 8 5", "barge 1 2 3",
+        "set 2 1 5", "sheet 1 3 8 -1 -1", "hire 4 1 7", "leave 2 8", "pass 8 1 1", "rest 2 60", "day 4", "undo 3",
+        "sings 2 0 3", "lacks 2 0 3", "spoils 3 0 3", "shift 2 0 3", "voices 2 0 3", "journey 4 0 4", "hires 3 0 4",
+        "rested 3 0 4", "queue 2 2", "jams 2", "heard 3 25 1", "forget 1", "who 1", "listen 1", "parts 1", "opens 1 4 10",
+        "tries 1 10 100", "rests 1 9", "pays 3 0 3", "days 3 -1 60", "keep 2 2", "again 2 2", "count 5 12", "row 5 4"};
+    /** In short runs these are part of the state that is looked at. */
+    private static final int LOOKS = 2;
+    private static final List<Integer> OFTEN = new ArrayList<>();
+    private static final long[] ANSWERS = new long[CALLS.length];
+    private static final long[] GOOD = new long[CALLS.length];
 
     public static void main(String[] args) {
-        for (int seed = 0; seed < RUNS && wrong < 10; seed++) {
-            run(seed);
+        for (int call = 0; call < CALLS.length; call++) {
+            for (int i = 0; i < Integer.parseInt(CALLS[call].split(" ")[1]); i++) {
+                OFTEN.add(call);
+            }
+        }
+        for (int seed = 0; seed < SHORT_RUNS && Checks.wrong < 10; seed++) {
+            new Run(seed).goOnLooking(100);
+        }
+        for (int seed = 0; seed < LONG_RUNS && Checks.wrong < 10; seed++) {
+            new Run(-1 - seed).goOnToTheEnd();
         }
         checkThatAllWasReached();
-        System.out.println(wrong == 0 ? "the model agrees" : wrong + " answers are not the model's");
-        if (wrong != 0) {
-            System.exit(1);
-        }
+        Checks.report("the model agrees");
     }
 
     /** A comparison of refusals alone would prove nothing: each call must have answered well, too. */
     private static void checkThatAllWasReached() {
-        for (int call = 0; call < CALLS; call++) {
-            if (ANSWERS[call] == 0 || GOOD[call] == 0) {
-                wrong++;
-                System.out.println("call " + call + " answered well " + GOOD[call] + " times of " + ANSWERS[call]);
+        for (int call = 0; call < CALLS.length; call++) {
+            if (GOOD[call] < 100) {
+                Checks.fail(CALLS[call] + " answered well " + GOOD[call] + " times of " + ANSWERS[call]);
             }
         }
     }
 
-    private static void run(int seed) {
-        Random random = new Random(seed);
-        LocksBySong x = new LocksBySong();
-        Model m = new Model();
-        StringBuilder log = new StringBuilder();
-        boolean ready = random.nextInt(8) != 0;
-        if (ready) {
-            furnish(x, m, random, log);
-        }
-        for (int i = 0; i < 100; i++) {
-            int call = OFTEN[random.nextInt(OFTEN.length)];
-            int a = argument(random, call < FIRST.length ? FIRST[call] : 9);
-            int b = argument(random, call < SECOND.length ? SECOND[call] : 9);
-            writeText(x, m, random, call, log);
-            long[] got = answer(x, null, call, a, b, seed);
-            long[] want = answer(null, m, call, a, b, seed);
-            log.append(" call").append(call).append('(').append(a).append(',').append(b).append(")=").append(Arrays.toString(want));
-            ANSWERS[call]++;
-            GOOD[call] += want[0] >= 0 ? 1 : 0;
-            if (!Arrays.equals(got, want) || !Arrays.equals(state(x), m.state())) {
-                wrong++;
-                System.out.println("seed " + seed + ":" + log + " but got " + Arrays.toString(got));
-                System.out.println("  state " + Arrays.toString(state(x)) + "\n  model " + Arrays.toString(m.state()));
-                return;
+    /** An object and the model, which are asked the same. */
+    private static final class Run {
+        final Calls calls = new Calls();
+        final Model model = new Model();
+        final Drawn drawn;
+        final int seed;
+        final StringBuilder log = new StringBuilder();
+        boolean agrees = true;
+
+        Run(int seed) {
+            this.seed = seed;
+            drawn = new Drawn(seed);
+            if (!drawn.seldom(8)) {
+                furnish();
             }
         }
-    }
 
-    /** The greatest arguments that are of use, by calls; more than that comes seldom. */
-    private static final int[] FIRST = {
-        -1, 80, 0, 0, 0, 0, 3, 8, 2, 1, 3, 0, 8, 0, 60, 0, 0, 0, 0, 0,
-        0, 0, 0, 0, 0, 2, 0, 25, 0, 0, 0, 0, 4, 10, 9, 0, -1, 2, 2};
-    private static final int[] SECOND = {
-        0, 0, 0, 0, 0, 0, 5, 5, 3, 5, 8, 7, 0, 1, 0, 0, 0, 3, 3, 3,
-        3, 3, 4, 4, 4, 0, 0, 1, 0, 0, 0, 0, 10, 100, 0, 3, 60, 0, 0};
-    /** New locks, singers and barges come seldom, since they forget what can be undone. */
-    private static final int[] OFTEN = {
-        0, 1, 2, 3, 4, 5, 5, 5, 6, 7, 8, 9, 9, 10, 11, 11, 11, 11, 12, 12, 13, 13, 13, 13, 13, 13, 13, 13,
-        14, 14, 15, 15, 15, 15, 16, 16, 16, 17, 17, 18, 18, 19, 19, 19, 20, 20, 21, 21, 22, 22, 22, 22,
-        23, 23, 23, 24, 24, 24, 25, 25, 26, 26, 27, 27, 27, 28, 29, 30, 31, 32, 33, 34, 35, 35, 35, 36, 36, 36,
-        37, 37, 38, 38};
-
-    private static int argument(Random random, int most) {
-        switch (random.nextInt(most < 0 ? 4 : 40)) {
-            case 0:
-                return -1 - random.nextInt(3);
-            case 1:
-                return random.nextInt();
-            case 2:
-                return random.nextInt(1000);
-            case 3:
-                return 1 << random.nextInt(27);
-            default:
-                return random.nextInt(most + (random.nextInt(8) == 0 ? 2 : 1));
-        }
-    }
-
-    private static void furnish(LocksBySong x, Model m, Random random, StringBuilder log) {
-        int locks = 1 + random.nextInt(4);
-        write(x, m, lockText(random, locks), log);
-        x.locks();
-        m.locks();
-        int singers = 5 + random.nextInt(4);
-        write(x, m, singerText(random, singers, random.nextInt(4) == 0 ? locks : 0), log);
-        x.singers();
-        m.singers();
-        write(x, m, bargeText(random, 1 + random.nextInt(3), random.nextInt(6) == 0 ? locks : 0), log);
-        x.barges();
-        m.barges();
-        if (random.nextBoolean()) {
-            x.set(0, 2);
-            m.set(0, 2);
-            log.append(" water 2");
-        }
-        int crew = random.nextInt(3) == 0 ? 0 : singers - random.nextInt(3);
-        // Most calls need crews, which random hires alone would seldom bring together.
-        for (int s = 0; s < crew; s++) {
-            int barge = random.nextInt(8) == 0 ? 1 : 0;
-            x.hire(barge, s);
-            m.hire(barge, s);
-            log.append(" hire").append(barge).append(s);
-        }
-    }
-
-    private static String lockText(Random random, int lines) {
-        StringBuilder b = new StringBuilder();
-        int wide = 1 + random.nextInt(12);
-        int from = 2 + random.nextInt(8);
-        for (int i = 0; i < lines; i++) {
-            int[] notes = new int[4];
-            for (int k = 0; k < 4; k++) {
-                notes[k] = from + random.nextInt(wide);
+        /** The looks are calls, too, but what the object holds is seen all the better. */
+        void goOnLooking(int many) {
+            for (int i = 0; i < many && agrees; i++) {
+                int call = nextCall(CALLS.length - LOOKS);
+                long[] want = both(call);
+                long[] got = rowOf(calls.x);
+                if (agrees && !(Arrays.equals(got, want) && Arrays.equals(state(calls.x), model.state()))) {
+                    differs("behind it the row is " + Arrays.toString(got) + ", due is " + Arrays.toString(want)
+                        + "\n  state " + Arrays.toString(state(calls.x)) + "\n  model " + Arrays.toString(model.state()));
+                }
             }
-            Arrays.sort(notes);
-            b.append(i > 0 ? ";" : "");
-            for (int note : notes) {
-                b.append((char) ('a' + note));
+        }
+
+        void goOnToTheEnd() {
+            // A text takes 20 calls of sign(), two of end() and the one that reads it.
+            while (calls.left() >= 23 && agrees) {
+                if (drawn.seldom(10)) {
+                    ease();
+                } else {
+                    both(nextCall(CALLS.length));
+                }
             }
-            b.append(1 + random.nextInt(9));
+            while (calls.left() > 0 && agrees) {
+                ask("count", drawn.below(13));
+            }
         }
-        return b.toString();
-    }
 
-    private static String singerText(Random random, int lines, int places) {
-        StringBuilder b = new StringBuilder();
-        for (int i = 0; i < lines; i++) {
-            int low = random.nextInt(random.nextInt(4) == 0 ? 16 : 6);
-            int high = low + random.nextInt(26 - low);
-            high = random.nextInt(4) != 0 ? Math.max(high, 12 + random.nextInt(14)) : high;
-            b.append(i > 0 ? ";" : "").append((char) ('a' + low)).append((char) ('a' + high));
-            b.append(random.nextInt(places + 1)).append(':').append(random.nextInt(random.nextInt(3) == 0 ? 40 : 8));
-        }
-        return b.toString();
-    }
-
-    private static String bargeText(Random random, int lines, int places) {
-        StringBuilder b = new StringBuilder();
-        for (int i = 0; i < lines; i++) {
-            b.append(i > 0 ? ";" : "").append(random.nextInt(places + 1)).append(random.nextInt(10));
-        }
-        return b.toString();
-    }
-
-    private static String ruleText(Random random, int depth) {
-        int kind = random.nextInt(depth > 5 ? 2 : 9);
-        if (kind == 0) {
-            return "" + random.nextInt(random.nextBoolean() ? 10 : 1000);
-        }
-        if (kind < 4) {
-            return "" + "ntlwucm".charAt(random.nextInt(7));
-        }
-        if (kind == 4) {
-            return "-" + ruleText(random, depth + 1);
-        }
-        if (kind == 5) {
-            return "(" + ruleText(random, depth + 1) + ")";
-        }
-        return ruleText(random, depth + 1) + "<>=+-*/+-*/".charAt(random.nextInt(11)) + ruleText(random, depth + 1);
-    }
-
-    private static String dayText(Random random) {
-        StringBuilder b = new StringBuilder();
-        int acts = random.nextInt(6);
-        for (int i = 0; i < acts; i++) {
-            b.append(i > 0 ? ";" : "");
-            switch (random.nextInt(5)) {
+        /** Without these the crews of a long run are soon too tired, too few, or without water. */
+        private void ease() {
+            switch (drawn.below(4)) {
                 case 0:
-                    b.append('h').append(random.nextInt(2)).append(random.nextInt(8));
+                    ask("set", 1, 0);
                     break;
                 case 1:
-                    b.append('l').append(random.nextInt(9));
+                    ask("set", 0, drawn.below(30));
                     break;
                 case 2:
-                    b.append('r').append(random.nextInt(random.nextInt(4) == 0 ? 700 : 40));
+                    ask("rest", drawn.below(100));
                     break;
                 default:
-                    b.append(random.nextBoolean() ? 'u' : 'd').append(random.nextInt(2));
+                    hireAll(drawn.below(3));
             }
         }
-        return b.toString();
-    }
 
-    private static String queueText(Random random) {
-        StringBuilder b = new StringBuilder();
-        int many = random.nextInt(11);
-        for (int i = 0; i < many; i++) {
-            b.append(random.nextBoolean() ? 'u' : 'd');
-        }
-        return b.toString();
-    }
-
-    private static void writeText(LocksBySong x, Model m, Random random, int call, StringBuilder log) {
-        String t;
-        switch (call) {
-            case 2:
-                t = lockText(random, random.nextInt(6));
-                break;
-            case 3:
-                t = singerText(random, random.nextInt(6), 3);
-                break;
-            case 4:
-                t = bargeText(random, random.nextInt(4), 2);
-                break;
-            case 5:
-                t = ruleText(random, 0);
-                break;
-            case 15:
-                t = dayText(random);
-                break;
-            case 25:
-                t = queueText(random);
-                break;
-            default:
-                return;
-        }
-        StringBuilder b = new StringBuilder(t);
-        if (random.nextInt(3) == 0) {
-            spoil(b, random);
-        }
-        write(x, m, b.length() > 80 ? b.substring(0, 80) : b.toString(), log);
-    }
-
-    private static void spoil(StringBuilder b, Random random) {
-        String signs = "abz;:019nt()<>=+-*/udhlr" + (char) 0 + (char) 255;
-        int at = b.length() == 0 ? 0 : random.nextInt(b.length());
-        switch (random.nextInt(4)) {
-            case 0:
-                b.setLength(at);
-                break;
-            case 1:
-                b.insert(at, signs.charAt(random.nextInt(signs.length())));
-                break;
-            case 2:
-                b.append(b.length() > 0 ? ";" : "").append(b);
-                break;
-            default:
-                if (b.length() > 0) {
-                    b.setCharAt(at, signs.charAt(random.nextInt(signs.length())));
+        private void hireAll(int barge) {
+            for (int s = 0; s < 8; s++) {
+                if (model.wouldAnswer("hire", barge, s) >= 0) {
+                    ask("hire", barge, s);
                 }
+            }
+        }
+
+        private int nextCall(int below) {
+            int call;
+            do {
+                call = OFTEN.get(drawn.below(OFTEN.size()));
+            } while (call >= below);
+            return call;
+        }
+
+        private long[] both(int call) {
+            String[] parts = CALLS[call].split(" ");
+            String text = drawn.textFor(parts[0]);
+            if (text != null) {
+                write(text);
+            }
+            long answer = ask(parts[0], argumentsFor(parts));
+            ANSWERS[call]++;
+            GOOD[call] += answer >= 0 ? 1 : 0;
+            return model.row.stream().mapToLong(v -> v).toArray();
+        }
+
+        /** Most calls would be refused, were their arguments not drawn again, so that little went on. */
+        private int[] argumentsFor(String[] parts) {
+            int[] args = new int[parts.length - 2];
+            int draws = args.length == 0 || drawn.seldom(3) ? 1 : 8;
+            for (int draw = 0; draw < draws; draw++) {
+                for (int i = 0; i < args.length; i++) {
+                    args[i] = drawn.argument(Integer.parseInt(parts[i + 2]));
+                }
+                if (draws > 1 && model.wouldAnswer(parts[0], args) >= 0) {
+                    break;
+                }
+            }
+            return args;
+        }
+
+        private void write(String text) {
+            log.append(" \"").append(text).append('"');
+            // What was left in THE TEXT is sometimes read together with what comes behind it.
+            int had = drawn.seldom(20) ? (int) model.count(12) : 0;
+            ask("end", had);
+            for (int i = 0; i < text.length(); i += 4) {
+                ask("sign", Calls.four(text, i));
+            }
+            ask("end", Math.min((int) model.count(12), had + text.length()));
+        }
+
+        long ask(String call, int... args) {
+            long want = model.ask(call, args);
+            long got = calls.ask(call, args);
+            if (!call.equals("sign") && !call.equals("end")) {
+                log.append(' ').append(call).append(Arrays.toString(args)).append('=').append(want);
+            }
+            if (got != want) {
+                differs("but got " + got);
+            }
+            return want;
+        }
+
+        private void differs(String why) {
+            agrees = false;
+            Checks.fail("seed " + seed + ":" + log + " " + why);
+        }
+
+        private void furnish() {
+            int locks = 1 + drawn.below(4);
+            told(drawn.lockText(locks), "locks");
+            int singers = 5 + drawn.below(4);
+            told(drawn.singerText(singers, drawn.seldom(4) ? locks : 0), "singers");
+            told(drawn.bargeText(1 + drawn.below(3), drawn.seldom(6) ? locks : 0), "barges");
+            if (drawn.seldom(2)) {
+                ask("set", 0, 2);
+            }
+            int crew = drawn.seldom(3) ? 0 : singers - drawn.below(3);
+            // Most calls need crews, which random hires alone would seldom bring together.
+            for (int s = 0; s < crew; s++) {
+                ask("hire", drawn.seldom(8) ? 1 : 0, s);
+            }
+        }
+
+        private void told(String text, String call) {
+            write(text);
+            ask(call);
         }
     }
 
-    private static void write(LocksBySong x, Model m, String t, StringBuilder log) {
-        log.append(" \"").append(t).append('"');
-        x.end(0);
-        m.text = t;
-        for (int i = 0; i < t.length(); i += 4) {
-            int v = 0;
-            for (int k = 0; k < 4; k++) {
-                v = v << 8 | (i + k < t.length() ? t.charAt(i + k) : 0);
-            }
-            x.sign(v);
-        }
-        x.end(t.length());
-    }
-
-    private static final int CALLS = 39;
-    private static final long THROWN = Long.MIN_VALUE;
-
-    /** The answer of one of both, and its ROW. */
-    private static long[] answer(LocksBySong x, Model m, int call, int a, int b, int seed) {
-        long got = x != null ? ask(x, call, a, b, seed) : m.ask(call, a, b, seed);
-        List<Long> all = new ArrayList<>();
-        all.add(got);
-        if (x == null) {
-            all.addAll(m.row);
-        } else {
-            for (int i = 0; i < x.count(11); i++) {
-                all.add(x.row(i));
-            }
-        }
-        return all.stream().mapToLong(v -> v).toArray();
-    }
-
-    private static long ask(LocksBySong x, int call, int a, int b, int seed) {
-        try {
-            switch (call) {
-                case 0: return x.sign(a);
-                case 1: return x.end(a) ? 1 : 0;
-                case 2: return x.locks();
-                case 3: return x.singers();
-                case 4: return x.barges();
-                case 5: return x.rule();
-                case 6: return x.lock(a, b);
-                case 7: return x.singer(a, b);
-                case 8: return x.barge(a, b);
-                case 9: return x.set(a, b);
-                case 10: return x.sheet(a, b, seed * 77, seed % 9 - 2);
-                case 11: return x.hire(a, b);
-                case 12: return x.leave(a);
-                case 13: return x.pass(a, b);
-                case 14: return x.rest(a);
-                case 15: return x.day();
-                case 16: return x.undo();
-                case 17: return x.sings(a, b);
-                case 18: return x.lacks(a, b);
-                case 19: return x.spoils(a, b);
-                case 20: return x.shift(a, b);
-                case 21: return x.voices(a, b);
-                case 22: return x.journey(a, b);
-                case 23: return x.hires(a, b);
-                case 24: return x.rested(a, b);
-                case 25: return x.queue(a);
-                case 26: return x.jams();
-                case 27: return x.heard(a, b);
-                case 28: return x.forget();
-                case 29: return x.who();
-                case 30: return x.listen();
-                case 31: return x.parts();
-                case 32: return x.opens(a, b);
-                case 33: return x.tries(a, b);
-                case 34: return x.rests(a);
-                case 35: return x.pays(a, b);
-                case 36: return x.days(a, b);
-                case 37: return x.keep(a) ? 1 : 0;
-                default: return x.again(a) ? 1 : 0;
-            }
-        } catch (NoSuchElementException e) {
-            return THROWN;
-        }
+    private static long[] rowOf(LocksBySong x) {
+        return Checks.row(x).stream().mapToLong(v -> v).toArray();
     }
 
     private static long[] state(LocksBySong x) {
@@ -357,1156 +227,5 @@ public final class LocksBySongModelTest {
             }
         }
         return all.stream().mapToLong(v -> v).toArray();
-    }
-
-    private static final class Lock {
-        int[] notes = new int[4];
-        int held;
-        int level;
-
-        Lock copy() {
-            Lock c = new Lock();
-            c.notes = notes.clone();
-            c.held = held;
-            c.level = level;
-            return c;
-        }
-    }
-
-    private static final class Singer {
-        int low;
-        int high;
-        int fee;
-        int tired;
-        int place;
-        int boat = -1;
-
-        Singer copy() {
-            Singer c = new Singer();
-            c.low = low;
-            c.high = high;
-            c.fee = fee;
-            c.tired = tired;
-            c.place = place;
-            c.boat = boat;
-            return c;
-        }
-    }
-
-    private static final class Barge {
-        int place;
-        int load;
-        int purse = 100;
-
-        Barge copy() {
-            Barge c = new Barge();
-            c.place = place;
-            c.load = load;
-            c.purse = purse;
-            return c;
-        }
-    }
-
-    private static final class World {
-        List<Lock> locks = new ArrayList<>();
-        List<Singer> singers = new ArrayList<>();
-        List<Barge> barges = new ArrayList<>();
-        int water = 20;
-        int now;
-
-        World copy() {
-            World c = new World();
-            locks.forEach(k -> c.locks.add(k.copy()));
-            singers.forEach(k -> c.singers.add(k.copy()));
-            barges.forEach(k -> c.barges.add(k.copy()));
-            c.water = water;
-            c.now = now;
-            return c;
-        }
-    }
-
-    /** The document once more, by trying out all there is. */
-    private static final class Model {
-        World w = new World();
-        String text = "";
-        String rule = "";
-        int jammed;
-        List<Long> row = new ArrayList<>();
-        List<World> past = new ArrayList<>();
-        World[] kept = new World[3];
-        List<int[]> heard = new ArrayList<>();
-
-        long ask(int call, int a, int b, int seed) {
-            switch (call) {
-                case 0: return sign(a);
-                case 1: return end(a);
-                case 2: return locks();
-                case 3: return singers();
-                case 4: return barges();
-                case 5: return rule();
-                case 6: return lock(a, b);
-                case 7: return singer(a, b);
-                case 8: return barge(a, b);
-                case 9: return set(a, b);
-                case 10: return sheet(a, b, seed * 77, seed % 9 - 2);
-                case 11: return hire(a, b);
-                case 12: return done(w.copy(), leave(a));
-                case 13: return pass(a, b);
-                case 14: return done(w.copy(), rest(w, a));
-                case 15: return day();
-                case 16: return undo();
-                case 17: return sings(a, b);
-                case 18: return lacks(a, b);
-                case 19: return spoils(a, b);
-                case 20: return shift(a, b);
-                case 21: return voices(a, b);
-                case 22: return journey(a, b);
-                case 23: return hires(a, b);
-                case 24: return rested(a, b);
-                case 25: return queue(a);
-                case 26: return jams();
-                case 27: return hear(a, b);
-                case 28: return forget();
-                case 29: return who();
-                case 30: return listen();
-                case 31: return parts();
-                case 32: return opens(a, b);
-                case 33: return tries(a, b);
-                case 34: return rests(a);
-                case 35: return pays(a, b);
-                case 36: return days(a, b);
-                case 37: return keep(a);
-                default: return again(a);
-            }
-        }
-
-        void tell(long... numbers) {
-            row = new ArrayList<>();
-            for (long n : numbers) {
-                row.add(n);
-            }
-        }
-
-        long[] state() {
-            List<Long> all = new ArrayList<>();
-            int levels = 0;
-            int free = 0;
-            int tired = 0;
-            for (int i = 0; i < w.locks.size(); i++) {
-                levels += w.locks.get(i).level << i;
-            }
-            for (int i = 0; i < w.singers.size(); i++) {
-                free += w.singers.get(i).boat < 0 ? 1 << i : 0;
-                tired += w.singers.get(i).tired;
-            }
-            for (int v : new int[] {-100, w.locks.size(), w.singers.size(), w.barges.size(), w.now, w.water, jammed,
-                levels, free, tired, heard.size(), past.size(), row.size(), text.length(), -100}) {
-                all.add((long) v);
-            }
-            for (int k = 0; k < w.locks.size(); k++) {
-                for (int what = 0; what < 6; what++) {
-                    all.add(lock(k, what));
-                }
-            }
-            for (int k = 0; k < w.singers.size(); k++) {
-                for (int what = 0; what < 6; what++) {
-                    all.add(singer(k, what));
-                }
-            }
-            for (int k = 0; k < w.barges.size(); k++) {
-                for (int what = 0; what < 4; what++) {
-                    all.add(barge(k, what));
-                }
-            }
-            return all.stream().mapToLong(v -> v).toArray();
-        }
-
-        long sign(int v) {
-            if (text.length() > 76) {
-                return -1;
-            }
-            text += "" + (char) (v >> 24 & 255) + (char) (v >> 16 & 255) + (char) (v >> 8 & 255) + (char) (v & 255);
-            return text.length();
-        }
-
-        long end(int n) {
-            if (n < 0 || n > text.length()) {
-                return 0;
-            }
-            text = text.substring(0, n);
-            return 1;
-        }
-
-        String read() {
-            String t = text;
-            text = "";
-            return t;
-        }
-
-        void came() {
-            past.clear();
-            Arrays.fill(kept, null);
-        }
-
-        /** The first sign that can't stand, by a form in which each sign of a line is named. */
-        long lines(String t, int most, int room, String form, int shortest) {
-            int lines = 0;
-            int in = 0;
-            for (int p = 0; p <= t.length(); p++) {
-                boolean over = p == t.length();
-                char c = over ? 0 : t.charAt(p);
-                if (over) {
-                    return in >= shortest ? lines : -1 - p;
-                }
-                if (p >= most) {
-                    return -1 - most;
-                }
-                if (in >= shortest && c == ';') {
-                    in = 0;
-                    continue;
-                }
-                if (in == 0) {
-                    if (lines == room) {
-                        return -1 - p;
-                    }
-                    lines++;
-                }
-                char before = p > 0 ? t.charAt(p - 1) : 0;
-                if (in >= form.length() || !stands(form.charAt(in), c, before)) {
-                    return -1 - p;
-                }
-                in++;
-            }
-            throw new AssertionError();
-        }
-
-        boolean stands(char kind, char c, char before) {
-            switch (kind) {
-                case 'a': return c >= 'a' && c <= 'z';
-                case 'b': return c >= before && c <= 'z';
-                case '1': return c >= '1' && c <= '9';
-                case 'p': return c >= '0' && c <= '9' && c - '0' <= w.locks.size();
-                case '0': return c >= '0' && c <= '9';
-                default: return c == kind;
-            }
-        }
-
-        long locks() {
-            String t = read();
-            long many = t.isEmpty() ? 0 : lines(t, 47, 8 - w.locks.size(), "abbb1", 5);
-            if (many > 0) {
-                came();
-                for (String line : t.split(";")) {
-                    Lock k = new Lock();
-                    for (int i = 0; i < 4; i++) {
-                        k.notes[i] = line.charAt(i) - 'a';
-                    }
-                    k.held = line.charAt(4) - '0';
-                    w.locks.add(k);
-                }
-            }
-            return many;
-        }
-
-        long singers() {
-            String t = read();
-            long many = t.isEmpty() ? 0 : lines(t, 63, 8 - w.singers.size(), "abp:00", 5);
-            if (many > 0) {
-                came();
-                for (String line : t.split(";")) {
-                    Singer s = new Singer();
-                    s.low = line.charAt(0) - 'a';
-                    s.high = line.charAt(1) - 'a';
-                    s.place = line.charAt(2) - '0';
-                    s.fee = Integer.parseInt(line.substring(4));
-                    w.singers.add(s);
-                }
-            }
-            return many;
-        }
-
-        long barges() {
-            String t = read();
-            long many = t.isEmpty() ? 0 : lines(t, 11, 4 - w.barges.size(), "p0", 2);
-            if (many > 0) {
-                came();
-                for (String line : t.split(";")) {
-                    Barge b = new Barge();
-                    b.place = line.charAt(0) - '0';
-                    b.load = line.charAt(1) - '0';
-                    w.barges.add(b);
-                }
-            }
-            return many;
-        }
-
-        /** A walk over the signs with a pile of brackets, each knowing whether it has compared. */
-        long rule() {
-            String t = read();
-            List<Boolean> compared = new ArrayList<>(List.of(false));
-            int digits = 0;
-            boolean behind = false;
-            for (int p = 0; p < t.length(); p++) {
-                char c = t.charAt(p);
-                int deep = compared.size() - 1;
-                boolean fine;
-                if (p >= 40) {
-                    return -41;
-                }
-                if (behind) {
-                    if (Character.isDigit(c) && c < 128) {
-                        fine = digits > 0 && digits < 3;
-                        digits++;
-                    } else if (c == ')') {
-                        fine = deep > 0;
-                        if (fine) {
-                            compared.remove(deep);
-                        }
-                        digits = 0;
-                    } else if ("<>=".indexOf(c) >= 0) {
-                        fine = !compared.get(deep);
-                        compared.set(deep, true);
-                        behind = false;
-                    } else {
-                        fine = "+-*/".indexOf(c) >= 0;
-                        behind = false;
-                    }
-                } else if (c >= '0' && c <= '9') {
-                    fine = true;
-                    behind = true;
-                    digits = 1;
-                } else if ("ntlwucm".indexOf(c) >= 0) {
-                    fine = true;
-                    behind = true;
-                    digits = 0;
-                } else if (c == '(') {
-                    fine = deep < 4;
-                    compared.add(false);
-                } else {
-                    fine = c == '-';
-                }
-                if (!fine) {
-                    return -1 - p;
-                }
-            }
-            if (!t.isEmpty() && (!behind || compared.size() > 1)) {
-                return -1 - t.length();
-            }
-            rule = t;
-            return 0;
-        }
-
-        /** Splits at the operator that binds least, the last of its kind. */
-        int value(String e, int[] things) {
-            for (String kind : new String[] {"<>=", "+-", "*/"}) {
-                int deep = 0;
-                for (int p = e.length() - 1; p > 0; p--) {
-                    char c = e.charAt(p);
-                    deep += c == ')' ? 1 : c == '(' ? -1 : 0;
-                    boolean two = "0123456789ntlwucm)".indexOf(e.charAt(p - 1)) >= 0;
-                    if (deep == 0 && two && kind.indexOf(c) >= 0) {
-                        return join(value(e.substring(0, p), things), c, value(e.substring(p + 1), things));
-                    }
-                }
-            }
-            if (e.charAt(0) == '-') {
-                return -value(e.substring(1), things);
-            }
-            if (e.charAt(0) == '(') {
-                return value(e.substring(1, e.length() - 1), things);
-            }
-            int thing = "ntlwucm".indexOf(e.charAt(0));
-            return thing >= 0 ? things[thing] : Integer.parseInt(e);
-        }
-
-        int join(int a, char c, int b) {
-            switch (c) {
-                case '<': return a < b ? 1 : 0;
-                case '>': return a > b ? 1 : 0;
-                case '=': return a == b ? 1 : 0;
-                case '+': return a + b;
-                case '-': return a - b;
-                case '*': return a * b;
-                default: return b == 0 ? 0 : a / b;
-            }
-        }
-
-        long lock(int k, int what) {
-            if (!hasLock(k) || what < 0 || what > 5) {
-                return THROWN;
-            }
-            Lock lock = w.locks.get(k);
-            return what < 4 ? lock.notes[what] : what == 4 ? lock.held : lock.level;
-        }
-
-        long singer(int k, int what) {
-            if (!hasSinger(k) || what < 0 || what > 5) {
-                return THROWN;
-            }
-            Singer s = w.singers.get(k);
-            int place = s.boat < 0 ? s.place : w.barges.get(s.boat).place;
-            return new int[] {s.low, s.high, s.fee, s.tired, place, s.boat}[what];
-        }
-
-        long barge(int k, int what) {
-            if (!hasBarge(k) || what < 0 || what > 3) {
-                return THROWN;
-            }
-            Barge b = w.barges.get(k);
-            return new int[] {b.place, b.load, b.purse, bits(crew(w, k))}[what];
-        }
-
-        boolean hasLock(int k) {
-            return k >= 0 && k < w.locks.size();
-        }
-
-        boolean hasSinger(int k) {
-            return k >= 0 && k < w.singers.size();
-        }
-
-        boolean hasBarge(int k) {
-            return k >= 0 && k < w.barges.size();
-        }
-
-        boolean hasPlace(int k) {
-            return k >= 0 && k <= w.locks.size();
-        }
-
-        List<Integer> crew(World v, int barge) {
-            List<Integer> crew = new ArrayList<>();
-            for (int s = 0; s < v.singers.size(); s++) {
-                if (v.singers.get(s).boat == barge) {
-                    crew.add(s);
-                }
-            }
-            return crew;
-        }
-
-        int bits(List<Integer> set) {
-            return set.stream().mapToInt(s -> 1 << s).sum();
-        }
-
-        List<Integer> list(int bits) {
-            List<Integer> set = new ArrayList<>();
-            for (int i = 0; i < 31; i++) {
-                if ((bits >> i & 1) == 1) {
-                    set.add(i);
-                }
-            }
-            return set;
-        }
-
-        long set(int what, int v) {
-            if (what == 0 && v >= 0 && v <= 999) {
-                int was = w.water;
-                w.water = v;
-                return was;
-            }
-            if (what == 1 && v >= 0 && v >> 26 == 0) {
-                int was = jammed;
-                jammed = v;
-                return was;
-            }
-            return -1;
-        }
-
-        long sheet(int kind, int n, int f, int step) {
-            if (kind < 0 || kind > 3 || n > 8) {
-                return -1;
-            }
-            if (kind < 3 && n < 0) {
-                return -2;
-            }
-            long sum = 0;
-            for (int i = 0; i < w.singers.size(); i++) {
-                int v = f + i * step;
-                v = kind == 0 ? (byte) v : kind == 1 ? (short) v : v;
-                v = kind == 3 || i >= n ? 0 : v < 0 ? 0 : v > 99 ? 99 : v;
-                w.singers.get(i).fee = v;
-                sum += v;
-            }
-            return kind == 3 ? -3 : sum;
-        }
-
-        long done(World before, long answer) {
-            if (answer >= 0) {
-                past.add(before);
-                if (past.size() > 15) {
-                    past.remove(0);
-                }
-            }
-            return answer;
-        }
-
-        long hire(int barge, int singer) {
-            return done(w.copy(), takeOn(barge, singer));
-        }
-
-        long takeOn(int barge, int singer) {
-            if (!hasBarge(barge) || !hasSinger(singer)) {
-                return -1;
-            }
-            Barge b = w.barges.get(barge);
-            Singer s = w.singers.get(singer);
-            if (s.boat >= 0 || s.place != b.place) {
-                return -2;
-            }
-            if (b.purse < s.fee) {
-                return -3;
-            }
-            s.boat = barge;
-            return b.purse -= s.fee;
-        }
-
-        long leave(int singer) {
-            if (!hasSinger(singer)) {
-                return -1;
-            }
-            Singer s = w.singers.get(singer);
-            if (s.boat < 0) {
-                return -2;
-            }
-            int boat = s.boat;
-            s.place = w.barges.get(boat).place;
-            s.boat = -1;
-            return boat;
-        }
-
-        boolean can(World v, int s, int note, int jams) {
-            Singer one = v.singers.get(s);
-            return note >= 0 && note < 26 && (jams >> note & 1) == 0 && one.low <= note && note <= one.high - one.tired;
-        }
-
-        /** All fours of unlike ones, in the order of rows: the first that does, or null. */
-        int[] song(World v, List<Integer> crew, int[] notes, int jams) {
-            for (int a : crew) {
-                for (int b : crew) {
-                    for (int c : crew) {
-                        for (int d : crew) {
-                            boolean unlike = a != b && a != c && a != d && b != c && b != d && c != d;
-                            if (unlike && can(v, a, notes[0], jams) && can(v, b, notes[1], jams)
-                                && can(v, c, notes[2], jams) && can(v, d, notes[3], jams)) {
-                                return new int[] {a, b, c, d};
-                            }
-                        }
-                    }
-                }
-            }
-            return null;
-        }
-
-        int hindered(World v, int barge, int up, int jams) {
-            int k = up == 1 ? v.barges.get(barge).place : v.barges.get(barge).place - 1;
-            if (k < 0 || k >= v.locks.size()) {
-                return -2;
-            }
-            Lock lock = v.locks.get(k);
-            if (song(v, crew(v, barge), lock.notes, jams) == null) {
-                return -3;
-            }
-            int water = (up == 1 && lock.level == 1 ? 1 : 0) + (up == 0 ? 1 : 0);
-            return v.water < water ? -4 : 0;
-        }
-
-        int go(World v, int barge, int up, List<Integer> singing) {
-            int why = hindered(v, barge, up, jammed);
-            if (why < 0) {
-                return why;
-            }
-            Barge b = v.barges.get(barge);
-            int k = up == 1 ? b.place : b.place - 1;
-            Lock lock = v.locks.get(k);
-            int[] song = song(v, crew(v, barge), lock.notes, jammed);
-            int tired = 0;
-            for (int s : crew(v, barge)) {
-                tired += v.singers.get(s).tired;
-            }
-            int first = up == 1 ? lock.level : 1 - lock.level;
-            int[] things = {lock.held, tired, b.load, first, up, crew(v, barge).size(), v.now % 60};
-            int minutes = value(rule.isEmpty() ? "n*2+t/2+l+w*3" : rule, things);
-            minutes = minutes < 1 ? 1 : minutes > 99 ? 99 : minutes;
-            if (up == 1 && lock.level == 1) {
-                lock.level = 0;
-                v.water--;
-            }
-            if (up == 0) {
-                v.water--;
-            }
-            lock.level = up;
-            b.place += up == 1 ? 1 : -1;
-            v.now += minutes;
-            for (int s : song) {
-                Singer one = v.singers.get(s);
-                one.tired = one.tired == 9 ? 9 : one.tired + 1;
-                singing.add(s);
-            }
-            return minutes;
-        }
-
-        long pass(int barge, int up) {
-            World before = w.copy();
-            List<Integer> singing = new ArrayList<>();
-            long minutes = passing(barge, up, singing);
-            if (minutes >= 0) {
-                tell(singing.get(0), singing.get(1), singing.get(2), singing.get(3));
-            }
-            return done(before, minutes);
-        }
-
-        long passing(int barge, int up, List<Integer> singing) {
-            return !hasBarge(barge) || up < 0 || up > 1 ? -1 : go(w, barge, up, singing);
-        }
-
-        long rest(World v, int n) {
-            if (n < 0 || n > 600) {
-                return -1;
-            }
-            for (int i = 0; i < n; i++) {
-                v.now++;
-                if (v.now % 10 == 0) {
-                    v.singers.forEach(s -> s.tired = Math.max(0, s.tired - 1));
-                }
-            }
-            return v.now;
-        }
-
-        long day() {
-            String t = read();
-            int fault = dayFault(t);
-            if (fault >= 0) {
-                return -1 - fault;
-            }
-            World before = w.copy();
-            int did = 0;
-            int passed = 0;
-            boolean refused = false;
-            for (String act : t.isEmpty() ? new String[0] : t.split(";")) {
-                int d = Integer.parseInt(act.substring(1, 2));
-                char c = act.charAt(0);
-                long answer = c == 'h' ? takeOn(d, act.charAt(2) - '0')
-                    : c == 'l' ? leave(d)
-                    : c == 'r' ? rest(w, Integer.parseInt(act.substring(1)))
-                    : passing(d, c == 'u' ? 1 : 0, new ArrayList<>());
-                if (answer < 0) {
-                    refused = true;
-                    break;
-                }
-                did++;
-                passed += c == 'u' || c == 'd' ? 1 : 0;
-            }
-            done(before, did > 0 ? 0 : -1);
-            tell(refused ? 1 : 0, passed);
-            return did;
-        }
-
-        int dayFault(String t) {
-            String act = "";
-            for (int p = 0; p < t.length(); p++) {
-                char c = t.charAt(p);
-                boolean digit = c >= '0' && c <= '9';
-                boolean whole = act.matches("h\\d\\d|[lud]\\d|r\\d{1,3}");
-                boolean more = act.isEmpty() ? "hludr".indexOf(c) >= 0 : digit && !act.matches("h\\d\\d|[lud]\\d|r\\d{3}");
-                if (p >= 60 || !(more || whole && c == ';')) {
-                    return p;
-                }
-                act = more ? act + c : "";
-            }
-            return t.isEmpty() || act.matches("h\\d\\d|[lud]\\d|r\\d{1,3}") ? -1 : t.length();
-        }
-
-        long undo() {
-            if (past.isEmpty()) {
-                return -1;
-            }
-            back(past.remove(past.size() - 1));
-            return past.size();
-        }
-
-        /** The fees do not go back: they are none of what is kept. */
-        void back(World v) {
-            World c = v.copy();
-            for (int i = 0; i < c.singers.size(); i++) {
-                c.singers.get(i).fee = w.singers.get(i).fee;
-            }
-            w = c;
-        }
-
-        long sings(int barge, int lock) {
-            if (!hasBarge(barge) || !hasLock(lock)) {
-                return -1;
-            }
-            int[] song = song(w, crew(w, barge), w.locks.get(lock).notes, jammed);
-            tell(song == null ? new long[0] : Arrays.stream(song).asLongStream().toArray());
-            return song == null ? 0 : 1;
-        }
-
-        boolean notesSung(List<Integer> crew, int[] notes, int set, int i) {
-            if (i == 4) {
-                return true;
-            }
-            if ((set >> i & 1) == 0) {
-                return notesSung(crew, notes, set, i + 1);
-            }
-            for (int s : crew) {
-                List<Integer> others = new ArrayList<>(crew);
-                others.remove(Integer.valueOf(s));
-                if (can(w, s, notes[i], jammed) && notesSung(others, notes, set, i + 1)) {
-                    return true;
-                }
-            }
-            return false;
-        }
-
-        long lacks(int barge, int lock) {
-            if (!hasBarge(barge) || !hasLock(lock)) {
-                return -1;
-            }
-            int best = 0;
-            for (int set = 15; set >= 0; set--) {
-                if (Integer.bitCount(set) >= Integer.bitCount(best)
-                    && notesSung(crew(w, barge), w.locks.get(lock).notes, set, 0)) {
-                    best = set;
-                }
-            }
-            tell(best);
-            return Integer.bitCount(best);
-        }
-
-        long spoils(int barge, int lock) {
-            if (!hasBarge(barge) || !hasLock(lock)) {
-                return -1;
-            }
-            int crew = bits(crew(w, barge));
-            for (int many = 0; many <= 8; many++) {
-                for (int set = 0; set < 256; set++) {
-                    if ((set & crew) == set && Integer.bitCount(set) == many
-                        && song(w, list(crew ^ set), w.locks.get(lock).notes, jammed) == null) {
-                        tell(set);
-                        return many;
-                    }
-                }
-            }
-            throw new AssertionError();
-        }
-
-        long shift(int barge, int lock) {
-            if (!hasBarge(barge) || !hasLock(lock)) {
-                return -1;
-            }
-            int best = 99;
-            int[] song = null;
-            for (int by = -25; by <= 25; by++) {
-                int[] notes = w.locks.get(lock).notes.clone();
-                for (int i = 0; i < 4; i++) {
-                    notes[i] += by;
-                }
-                int[] found = song(w, crew(w, barge), notes, jammed);
-                if (found != null && Math.abs(by) < Math.abs(best)) {
-                    best = by;
-                    song = found;
-                }
-            }
-            if (song == null) {
-                return -2;
-            }
-            tell(song[0], song[1], song[2], song[3]);
-            return best + 100;
-        }
-
-        /** Each set as fees, how many, bits: the least row is the best; null for none. */
-        int[] cheapest(int free, java.util.function.IntPredicate does) {
-            int[] best = null;
-            for (int set = 0; set < 256; set++) {
-                if ((set & free) != set || !does.test(set)) {
-                    continue;
-                }
-                int fees = list(set).stream().mapToInt(s -> w.singers.get(s).fee).sum();
-                int[] row = {fees, Integer.bitCount(set), set};
-                if (best == null || Arrays.compare(row, best) < 0) {
-                    best = row;
-                }
-            }
-            return best;
-        }
-
-        int freeAt(int place) {
-            int free = 0;
-            for (int s = 0; s < w.singers.size(); s++) {
-                Singer one = w.singers.get(s);
-                free |= one.boat < 0 && one.place == place ? 1 << s : 0;
-            }
-            return free;
-        }
-
-        int[] voicesOf(int barge, int lock, int without) {
-            int crew = bits(crew(w, barge));
-            return cheapest(freeAt(w.barges.get(barge).place) & ~without,
-                set -> song(w, list(crew | set), w.locks.get(lock).notes, jammed) != null);
-        }
-
-        long voices(int barge, int lock) {
-            if (!hasBarge(barge) || !hasLock(lock)) {
-                return -1;
-            }
-            int[] best = voicesOf(barge, lock, 0);
-            if (best == null) {
-                return -2;
-            }
-            tell(best[0]);
-            return best[2];
-        }
-
-        long pays(int barge, int lock) {
-            if (!hasBarge(barge) || !hasLock(lock)) {
-                return -1;
-            }
-            int[] best = voicesOf(barge, lock, 0);
-            if (best == null) {
-                return -2;
-            }
-            List<Long> all = new ArrayList<>();
-            for (int s = 0; s < w.singers.size(); s++) {
-                int[] less = voicesOf(barge, lock, 1 << s);
-                all.add(less == null ? 9999L : less[0] - best[0]);
-            }
-            row = all;
-            return Collections.max(all);
-        }
-
-        long[] travel(World v, int barge, int place) {
-            long minutes = 0;
-            long passed = 0;
-            while (v.barges.get(barge).place != place) {
-                int at = v.barges.get(barge).place;
-                int up = at < place ? 1 : 0;
-                int took = go(v, barge, up, new ArrayList<>());
-                if (took < 0) {
-                    return new long[] {-2, passed, up == 1 ? at : at - 1, -took};
-                }
-                minutes += took;
-                passed++;
-            }
-            long tired = crew(v, barge).stream().mapToInt(s -> v.singers.get(s).tired).sum();
-            return new long[] {minutes, passed, 0, tired};
-        }
-
-        long journey(int barge, int place) {
-            if (!hasBarge(barge) || !hasPlace(place)) {
-                return -1;
-            }
-            World v = w.copy();
-            long[] end = travel(v, barge, place);
-            tell(end[1], end[0] < 0 ? end[2] : w.water - v.water, end[3]);
-            return end[0];
-        }
-
-        long hires(int barge, int place) {
-            if (!hasBarge(barge) || !hasPlace(place)) {
-                return -1;
-            }
-            int start = w.barges.get(barge).place;
-            int all = bits(crew(w, -1));
-            int crew = bits(crew(w, barge));
-            int[] best = cheapest(all, set -> {
-                int at = start;
-                int with = crew;
-                while (at != place) {
-                    with |= freeAt(at) & set;
-                    int lock = at < place ? at : at - 1;
-                    if (song(w, list(with), w.locks.get(lock).notes, jammed) == null) {
-                        return false;
-                    }
-                    at += at < place ? 1 : -1;
-                }
-                return true;
-            });
-            if (best == null) {
-                return -2;
-            }
-            tell(best[0]);
-            return best[2];
-        }
-
-        long rested(int barge, int place) {
-            if (!hasBarge(barge) || !hasPlace(place)) {
-                return -1;
-            }
-            for (int minutes = 0; minutes <= 90; minutes += 10) {
-                World v = w.copy();
-                rest(v, minutes);
-                long[] end = travel(v, barge, place);
-                if (end[0] >= 0) {
-                    tell(end[0]);
-                    return minutes;
-                }
-            }
-            return -2;
-        }
-
-        List<long[]> orders;
-
-        long queue(int lock) {
-            String t = read();
-            if (!hasLock(lock)) {
-                return -1;
-            }
-            for (int p = 0; p < t.length(); p++) {
-                if (p == 14 || t.charAt(p) != 'u' && t.charAt(p) != 'd') {
-                    return -2 - p;
-                }
-            }
-            if (t.isEmpty()) {
-                return -2;
-            }
-            orders = new ArrayList<>();
-            tryOrders(t, new ArrayList<>(), w.locks.get(lock).level);
-            long[] best = Collections.min(orders, Arrays::compare);
-            tell(Arrays.copyOfRange(best, 1, best.length));
-            return best[0];
-        }
-
-        void tryOrders(String t, List<Integer> order, int start) {
-            if (order.size() == t.length()) {
-                orders.add(costOf(t, order, start));
-            }
-            boolean up = false;
-            boolean down = false;
-            for (int i = 0; i < t.length(); i++) {
-                boolean rises = t.charAt(i) == 'u';
-                if (order.contains(i) || (rises ? up : down)) {
-                    continue;
-                }
-                up |= rises;
-                down |= !rises;
-                List<Integer> longer = new ArrayList<>(order);
-                longer.add(i);
-                tryOrders(t, longer, start);
-            }
-        }
-
-        long[] costOf(String t, List<Integer> order, int start) {
-            long water = 0;
-            long changes = 0;
-            int level = start;
-            for (int i : order) {
-                int wants = t.charAt(i) == 'u' ? 0 : 1;
-                if (level != wants) {
-                    changes++;
-                    water += level;
-                    level = wants;
-                }
-                water += level;
-                level = 1 - level;
-            }
-            long[] all = new long[order.size() + 2];
-            all[0] = water;
-            all[1] = changes;
-            for (int i = 0; i < order.size(); i++) {
-                all[i + 2] = order.get(i);
-            }
-            return all;
-        }
-
-        long jams() {
-            int best = -1;
-            for (int a = 0; a < 26; a++) {
-                for (int b = a + 1; b < 26; b++) {
-                    int many = 0;
-                    for (int k = 0; k < w.barges.size(); k++) {
-                        int more = jammed | 1 << a | 1 << b;
-                        boolean could = hindered(w, k, 1, jammed) == 0 || hindered(w, k, 0, jammed) == 0;
-                        many += could && hindered(w, k, 1, more) < 0 && hindered(w, k, 0, more) < 0 ? 1 : 0;
-                    }
-                    if (many > best) {
-                        best = many;
-                        tell(a, b);
-                    }
-                }
-            }
-            return best;
-        }
-
-        long hear(int note, int is) {
-            if (note < 0 || note > 25 || is < 0 || is > 1 || heard.size() == 12) {
-                return -1;
-            }
-            heard.add(new int[] {note, is});
-            return heard.size();
-        }
-
-        long forget() {
-            int many = heard.size();
-            heard.clear();
-            return many;
-        }
-
-        boolean has(int s, int note) {
-            return w.singers.get(s).low <= note && note <= w.singers.get(s).high;
-        }
-
-        List<Integer> fits() {
-            List<Integer> fits = new ArrayList<>();
-            for (int s = 0; s < w.singers.size(); s++) {
-                boolean fit = true;
-                for (int[] h : heard) {
-                    fit &= has(s, h[0]) == (h[1] == 1);
-                }
-                if (fit) {
-                    fits.add(s);
-                }
-            }
-            return fits;
-        }
-
-        long who() {
-            tell(fits().size());
-            return bits(fits());
-        }
-
-        long listen() {
-            if (fits().isEmpty()) {
-                return -2;
-            }
-            long best = 99;
-            int at = -1;
-            for (int note = 25; note >= 0; note--) {
-                final int asked = note;
-                long with = fits().stream().filter(s -> has(s, asked)).count();
-                long most = Math.max(with, fits().size() - with);
-                if (most <= best) {
-                    best = most;
-                    at = note;
-                }
-            }
-            tell(best);
-            return at;
-        }
-
-        long parts() {
-            List<Integer> fits = fits();
-            for (int many = 0; many <= 4; many++) {
-                int x = (1 << many) - 1;
-                // Sets of so many bits, in the order of their numbers.
-                while (x < 1 << 26) {
-                    if (partedBy(fits, x)) {
-                        tell(x);
-                        return many;
-                    }
-                    if (x == 0) {
-                        break;
-                    }
-                    int low = x & -x;
-                    int high = x + low;
-                    x = high | ((x ^ high) >>> 2) / low;
-                }
-            }
-            return -2;
-        }
-
-        boolean partedBy(List<Integer> fits, int notes) {
-            List<Integer> sung = new ArrayList<>();
-            for (int s : fits) {
-                int range = (1 << w.singers.get(s).high + 1) - (1 << w.singers.get(s).low);
-                if (sung.contains(range & notes)) {
-                    return false;
-                }
-                sung.add(range & notes);
-            }
-            return true;
-        }
-
-        BigInteger[] chance(int n, int p) {
-            BigInteger all = BigInteger.valueOf(10000);
-            BigInteger fails = all.subtract(BigInteger.valueOf(10 - p).pow(4));
-            return new BigInteger[] {all.pow(n).subtract(fails.pow(n)), all.pow(n)};
-        }
-
-        long opens(int n, int p) {
-            if (n < 1 || n > 4 || p < 0 || p > 10) {
-                return -1;
-            }
-            BigInteger[] c = chance(n, p);
-            BigInteger by = c[0].gcd(c[1]);
-            tell(c[0].divide(by).longValueExact(), c[1].divide(by).longValueExact());
-            return 0;
-        }
-
-        long tries(int p, int v) {
-            if (p < 0 || p > 10 || v < 0 || v > 100) {
-                return -1;
-            }
-            for (int n = 1; n <= 4; n++) {
-                BigInteger[] c = chance(n, p);
-                if (c[0].multiply(BigInteger.valueOf(100)).compareTo(c[1].multiply(BigInteger.valueOf(v))) >= 0) {
-                    return n;
-                }
-            }
-            return -2;
-        }
-
-        long rests(int c) {
-            if (c < 0 || c > 9) {
-                return -1;
-            }
-            int[][] gets = new int[10][10];
-            for (int own = 0; own < 10; own++) {
-                for (int other = 0; other < 10; other++) {
-                    gets[own][other] = own < other ? own - c : own > other ? 0 : (int) ((own - c) / 2.0);
-                }
-            }
-            List<long[]> pairs = new ArrayList<>();
-            for (int a = 0; a < 10; a++) {
-                for (int b = 0; b < 10; b++) {
-                    boolean rests = true;
-                    for (int k = 0; k < 10; k++) {
-                        rests &= gets[k][b] <= gets[a][b] && gets[k][a] <= gets[b][a];
-                    }
-                    if (rests) {
-                        pairs.add(new long[] {a, b});
-                    }
-                }
-            }
-            tell(pairs.isEmpty() ? new long[0] : pairs.get(0));
-            return pairs.size();
-        }
-
-        long days(int seed, int n) {
-            if (n < 1 || n > 60 || w.barges.isEmpty()) {
-                return -1;
-            }
-            World v = w.copy();
-            long r = seed;
-            int passed = 0;
-            for (int i = 0; i < n; i++) {
-                r = r * 1103515245L + 12345L & 0xffffffffL;
-                int barge = (int) (r / 65536 % v.barges.size());
-                r = r * 1103515245L + 12345L & 0xffffffffL;
-                int act = (int) (r / 65536 % 3);
-                if (act == 2) {
-                    rest(v, 10);
-                } else {
-                    passed += go(v, barge, act == 0 ? 1 : 0, new ArrayList<>()) >= 0 ? 1 : 0;
-                }
-            }
-            tell(v.now - w.now, v.water);
-            return passed;
-        }
-
-        long keep(int i) {
-            if (i < 0 || i > 2) {
-                return 0;
-            }
-            kept[i] = w.copy();
-            return 1;
-        }
-
-        long again(int i) {
-            if (i < 0 || i > 2 || kept[i] == null) {
-                return 0;
-            }
-            back(kept[i]);
-            past.clear();
-            return 1;
-        }
     }
 }
