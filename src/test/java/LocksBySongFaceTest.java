@@ -5,6 +5,7 @@ import java.lang.reflect.Modifier;
 import java.util.Arrays;
 import java.util.HashSet;
 import java.util.List;
+import java.util.NoSuchElementException;
 import java.util.Set;
 import java.util.TreeSet;
 
@@ -61,7 +62,8 @@ public final class LocksBySongFaceTest {
                 open.add(told(m));
                 names.add(m.getName());
                 boolean throwing = List.of("lock", "singer", "barge", "row").contains(m.getName());
-                check(m.getExceptionTypes().length == (throwing ? 1 : 0), "what " + m.getName() + " says it throws");
+                List<Class<?>> due = throwing ? List.of(NoSuchElementException.class) : List.of();
+                check(Arrays.asList(m.getExceptionTypes()).equals(due), "what " + m.getName() + " says it throws");
             }
         }
         check(open.equals(new TreeSet<>(Arrays.asList(FACE))), "the methods of the document: " + open);
